@@ -62,8 +62,15 @@ public final class FuzzTest {
         return draw.nextInt(most + 1);
     }
 
+    /** Mostly lo to hi; in a third of the runs at times a little outside, or far. */
     private int near(int lo, int hi) {
-        return sloppy == 0 && draw.nextInt(12) == 0 ? lo - 1 + draw.nextInt(hi - lo + 3) : lo + draw.nextInt(hi - lo + 1);
+        if (sloppy == 0 && draw.nextInt(60) == 0) {
+            return draw.nextBoolean() ? Integer.MIN_VALUE : Integer.MAX_VALUE;
+        }
+        if (sloppy == 0 && draw.nextInt(12) == 0) {
+            return lo - 1 + draw.nextInt(hi - lo + 3);
+        }
+        return lo + draw.nextInt(hi - lo + 1);
     }
 
     private void play(long seed) {
@@ -80,7 +87,8 @@ public final class FuzzTest {
     private boolean addLine() {
         int m = near(0, Math.max(0, oracle.modules.size() - 1));
         int own = m >= 0 && m < oracle.modules.size() ? oracle.modules.get(m).get(oracle.current(m)).size() : 0;
-        int[] lively = {0, 0, 1, 2, 2, 3, 3, 4, 5, 6, 6, 6, 7, 7, 8, 9, 9, 10, 11, 12, 12, 13, 14, 14, 14, 15, 16, 17, 17};
+        int[] lively = {0, 0, 1, 2, 2, 3, 3, 4, 5, 6, 6, 6, 7, 7, 8, 9, 9, 10, 11, 12, 12, 13, 14, 14, 14, 15, 16,
+            17, 17};
         int kind = draw.nextInt(30) == 0 ? near(0, 17) : lively[draw.nextInt(lively.length)];
         int[] lo = {-99, 0, 0, 0, 0, 0, 0, 0, 0, 0, 0, 0, 0, 0, 0, 1, 0, 1};
         int[] hi = {99, 3, 3, 3, 0, 7, 3, 0, 0, 0, 1, 3, 1, 3, 4, 9, 0, 9};
@@ -123,7 +131,7 @@ public final class FuzzTest {
         if (d < 35) {
             int s = near(0, Math.max(0, oracle.specs.size() - 1));
             boolean is = draw.nextInt(3) == 0;
-            int number = near(0, is ? Math.max(0, s - 1) : Math.max(0, oracle.modules.size() - 1));
+            int number = near(0, is ? Math.max(1, Math.min(4, s)) - 1 : Math.max(0, oracle.modules.size() - 1));
             int mode = draw.nextInt(3) > 0 ? 0 : near(0, 2);
             return same("place " + s + " " + is + " " + number + " " + mode,
                 () -> den.place(s, is, number, mode), () -> oracle.place(s, is, number, mode));

@@ -9,6 +9,7 @@ public final class WouldTest {
         wouldPurge();
         overBy();
         overByDoesAll();
+        trialIsWhole();
         passedOver();
         digest();
         nothingChanges();
@@ -140,12 +141,12 @@ public final class WouldTest {
         Due.same("23 the watcher is on its way", 2, den.overBy(2, 1));
 
         MailDen names = new MailDen();
-        int a = Dens.module(names, Dens.is(Dens.NAME, 2), Dens.is(Dens.TAKE, 1));
+        int a = Dens.module(names, Dens.is(Dens.NAME, 2), Dens.is(Dens.TAKE, 1), Dens.is(Dens.TAKE, 0));
         int b = Dens.module(names, Dens.is(Dens.SLEEP, 1), Dens.is(Dens.CALL, 2, 1), Dens.is(Dens.TAKE, 0));
         names.start(a);
         names.start(b);
         names.run(2);
-        Due.same("23 the name has mail", 1, names.overBy(1, 50));
+        Due.same("23 there is such a name", 0, names.overBy(1, 50));
         names.signal(0, 9);
         Due.same("23 no such name", 2, names.overBy(1, 50));
 
@@ -156,6 +157,73 @@ public final class WouldTest {
         Due.same("23 restarts, not too often", 3, led.overBy(4, 50));
         Due.same("23 one restart a tick", 19, led.overBy(20, 50));
         Due.same("23 none has come", 2, led.many(2));
+    }
+
+    /** What a trial that knew less than the den would answer otherwise. */
+    private static void trialIsWhole() {
+        MailDen box = Dens.ran(Dens.is(Dens.SLEEP, 1), Dens.is(Dens.TAKE, 1));
+        Due.same("23 without mail", 0, box.overBy(1, 5));
+        box.send(0, 0, 5);
+        Due.same("23 with other mail", 0, box.overBy(1, 5));
+        box.send(0, 1, 5);
+        Due.same("23 with such mail", 1, box.overBy(1, 5));
+
+        MailDen there = Dens.ran(Dens.is(Dens.ADD, 1), Dens.is(Dens.SLEEP, 1), Dens.is(Dens.SKIP, 0, 4),
+            Dens.is(Dens.EXIT, 1), Dens.is(Dens.TAKE, 0));
+        Due.same("23 by what there is", 1, there.overBy(1, 5));
+        MailDen number = new MailDen();
+        int taker = Dens.module(number, Dens.is(Dens.TAKE, 0), Dens.is(Dens.SKIP, 0, 3), Dens.is(Dens.EXIT, 1),
+            Dens.is(Dens.TAKE, 0));
+        number.start(taker);
+        number.send(0, 0, 1);
+        Due.same("23 by the number of its mail", 1, number.overBy(1, 5));
+
+        MailDen row = new MailDen();
+        int sleeper = Dens.module(row, Dens.is(Dens.SLEEP, 3), Dens.is(Dens.TAKE, 0));
+        int ender = Dens.module(row, Dens.is(Dens.SLEEP, 2));
+        row.start(sleeper);
+        row.start(ender);
+        row.run(2);
+        row.tick(3);
+        Due.same("23 the second is first in the row", 1, row.overBy(1, 1));
+        MailDen behind = new MailDen();
+        int ready = Dens.module(behind, Dens.is(Dens.ADD, 1), Dens.is(Dens.NEXT));
+        int asleep = Dens.module(behind, Dens.is(Dens.SLEEP, 1), Dens.is(Dens.EXIT, 1));
+        behind.start(asleep);
+        behind.start(ready);
+        behind.run(3);
+        Due.same("23 behind the one that is in the row", 0, behind.overBy(1, 1));
+        Due.same("23 then it has its turn", 1, behind.overBy(1, 2));
+
+        MailDen empty = new MailDen();
+        int m = Dens.waiter(empty);
+        int s = Dens.spec(empty, 1, 3, 9, Dens.ofModule(m, 0), Dens.ofModule(m, 2));
+        empty.supervise(s);
+        empty.signal(2, 9);
+        while (empty.many(2) < 23) {
+            empty.start(m);
+        }
+        Due.same("21 no room is needed for an empty place", 2, empty.wouldFall(1, 9));
+
+        MailDen often = new MailDen();
+        int w = Dens.waiter(often);
+        int t = Dens.spec(often, 0, 1, 2, Dens.ofModule(w, 0));
+        often.start(w);
+        often.supervise(t);
+        often.tick(9);
+        often.signal(2, 9);
+        Due.same("21 it was started again just now", 10, often.wouldFall(3, 9));
+        often.tick(2);
+        Due.same("21 it was long ago", 8, often.wouldFall(3, 9));
+
+        MailDen mail = new MailDen();
+        int watcher = Dens.module(mail, Dens.is(Dens.WATCH), Dens.is(Dens.WATCH), Dens.is(Dens.TAKE, 2),
+            Dens.is(Dens.TAKE, 2));
+        int target = Dens.module(mail, Dens.is(Dens.SLEEP, 1));
+        mail.start(target);
+        mail.start(watcher);
+        mail.run(2);
+        Due.same("23 both watches bring their mail", 2, mail.overBy(1, 5));
     }
 
     private static void passedOver() {
