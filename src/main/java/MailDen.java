@@ -20,8 +20,8 @@ public final class MailDen {
     private static final int TURN_LINES = 20;
     private static final int HELD = 9999;
 
-    // Each RESTART starts a PROCESS or ENDS its SUPERVISOR, and there are 24 of either at most.
-    private static final int RESTARTS = 2 * PROCESSES;
+    // Each RESTART is of a CHILD that is OVER, and a PROCESS is OVER once.
+    private static final int RESTARTS = PROCESSES;
 
     private static final int ADD = 0;
     private static final int GET = 1;

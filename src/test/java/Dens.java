@@ -1,3 +1,7 @@
+import java.util.ArrayList;
+import java.util.List;
+import java.util.function.LongSupplier;
+
 /** What the tests of the promises make dens of. */
 final class Dens {
     static final Class<IndexOutOfBoundsException> INDEX = IndexOutOfBoundsException.class;
@@ -22,6 +26,9 @@ final class Dens {
     static final int SLEEP = 15;
     static final int NEXT = 16;
     static final int SIGNAL = 17;
+
+    private static final List<String> KINDS = List.of("ADD", "GET", "PUT", "LOOP", "SKIP", "EXIT", "SPAWN", "LINK",
+        "UNLINK", "WATCH", "TRAP", "NAME", "SEND", "CALL", "TAKE", "SLEEP", "NEXT", "SIGNAL");
 
     static final int READY = 0;
     static final int WAITS = 1;
@@ -50,6 +57,52 @@ final class Dens {
         }
     }
 
+    /** Adds a MODULE whose LINES are told by a text, such as "ADD 5, PUT 0, TAKE 1 3". */
+    static int written(MailDen den, String text) {
+        int module = den.module();
+        write(den, module, text);
+        return module;
+    }
+
+    static void write(MailDen den, int module, String text) {
+        add(den, module, lines(text));
+    }
+
+    /** The LINES that a text tells, each with its KIND, a and b. */
+    static int[][] lines(String text) {
+        String[] told = text.split(", ");
+        int[][] lines = new int[told.length][];
+        for (int k = 0; k < told.length; k++) {
+            String[] parts = told[k].split(" ");
+            int a = parts.length > 1 ? Integer.parseInt(parts[1]) : 0;
+            int b = parts.length > 2 ? Integer.parseInt(parts[2]) : 0;
+            lines[k] = is(KINDS.indexOf(parts[0]), a, b);
+        }
+        return lines;
+    }
+
+    /** A den with a PROCESS for each text, all of which did a turn; the same text is the same MODULE. */
+    static MailDen did(String... texts) {
+        MailDen den = new MailDen();
+        List<String> modules = new ArrayList<>();
+        for (String text : texts) {
+            if (!modules.contains(text)) {
+                modules.add(text);
+                written(den, text);
+            }
+            den.start(modules.indexOf(text));
+        }
+        den.run(texts.length);
+        return den;
+    }
+
+    /** Starts PROCESSES of a MODULE till there are so many. */
+    static void fill(MailDen den, int module, int upTo) {
+        while (den.many(2) < upTo) {
+            den.start(module);
+        }
+    }
+
     /** A den with one MODULE of these LINES and a PROCESS of it that did a turn. */
     static MailDen ran(int[]... lines) {
         MailDen den = new MailDen();
@@ -66,6 +119,24 @@ final class Dens {
     /** A MODULE whose PROCESSES link with the numbers that they are sent, and wait for more. */
     static int linker(MailDen den) {
         return module(den, is(TAKE, 0), is(LINK), is(NEXT));
+    }
+
+    /** What a call answers; an exception that the document names is told as Oracle tells it. */
+    static long answer(LongSupplier call) {
+        try {
+            return call.getAsLong();
+        } catch (RuntimeException e) {
+            if (e.getClass() == INDEX) {
+                return Oracle.INDEX;
+            }
+            if (e.getClass() == ARGUMENT) {
+                return Oracle.ARGUMENT;
+            }
+            if (e.getClass() == STATE) {
+                return Oracle.STATE;
+            }
+            throw e;
+        }
     }
 
     static int spec(MailDen den, int strategy, int most, int within, int[]... places) {

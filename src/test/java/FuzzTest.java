@@ -6,12 +6,30 @@ import java.util.function.LongSupplier;
  * included, must be the same, and all that one can ask is compared again and again.
  */
 public final class FuzzTest {
+    // A step is two calls at most, and the digest comes last: an object is used for 512 calls.
+    private static final int MOST_CALLS = 509;
+
+    // Codes whose PROCESSES do with the numbers that they are sent what many ENDS come of.
+    private static final String[] LIVELY = {
+        "TAKE 0, LINK, NEXT",
+        "TAKE 0, WATCH, NEXT",
+        "TRAP 1, TAKE 0, LINK, NEXT",
+        "TAKE 0, LINK, TAKE 0, WATCH, TAKE 2 3, NEXT",
+        "TRAP 1, NAME 1, TAKE 0, WATCH, LINK, TAKE 3 9, NEXT",
+        "TAKE 0, SIGNAL 3, NEXT",
+        "TAKE 4 5, EXIT 0",
+        "TAKE 0, UNLINK, TAKE 1 2, PUT 3, SEND 1, NEXT",
+        "TAKE 0, PUT 0, SPAWN 1 1, LOOP 0 2, SLEEP 2, EXIT 4",
+        "SLEEP 1, TAKE 1, CALL 1 0, NEXT",
+    };
+
     private final MailDen den = new MailDen();
     private final Oracle oracle = new Oracle();
     private final Random draw;
     private final StringBuilder told = new StringBuilder();
     private final int flavour;
     private final int sloppy;
+    private int calls;
 
     private FuzzTest(long seed) {
         draw = new Random(seed);
@@ -29,26 +47,10 @@ public final class FuzzTest {
         Due.end();
     }
 
-    private static long answer(LongSupplier call) {
-        try {
-            return call.getAsLong();
-        } catch (RuntimeException e) {
-            if (e.getClass() == IndexOutOfBoundsException.class) {
-                return Oracle.INDEX;
-            }
-            if (e.getClass() == IllegalArgumentException.class) {
-                return Oracle.ARGUMENT;
-            }
-            if (e.getClass() == IllegalStateException.class) {
-                return Oracle.STATE;
-            }
-            throw e;
-        }
-    }
-
     private boolean same(String call, LongSupplier got, LongSupplier due) {
+        calls++;
         long want = due.getAsLong();
-        long have = answer(got);
+        long have = Dens.answer(got);
         told.append(call).append(" -> ").append(want).append('\n');
         Due.quiet(call, want, have);
         if (want != have) {
@@ -75,9 +77,13 @@ public final class FuzzTest {
 
     private void play(long seed) {
         told.append("seed ").append(seed).append('\n');
-        int calls = 40 + draw.nextInt(260);
-        for (int k = 0; k < calls; k++) {
-            if (!one(k < 60)) {
+        int steps = 40 + draw.nextInt(260);
+        boolean lively = draw.nextInt(3) == 0;
+        if (lively && !writeLively()) {
+            return;
+        }
+        for (int k = 0; k < steps && calls < MOST_CALLS; k++) {
+            if (!one(k < 60, lively)) {
                 return;
             }
         }
@@ -111,8 +117,49 @@ public final class FuzzTest {
             () -> oracle.line(m, kind, a1, b1));
     }
 
-    private boolean one(boolean early) {
-        int d = draw.nextInt(early ? 60 : 100);
+    /** Two to four MODULES, and SPECS that start again what may be started again. */
+    private boolean writeLively() {
+        boolean goesOn = true;
+        int modules = 2 + draw.nextInt(3);
+        for (int k = 0; k < modules; k++) {
+            int m = k;
+            goesOn &= same("module", den::module, oracle::module);
+            for (int[] line : Dens.lines(LIVELY[draw.nextInt(LIVELY.length)])) {
+                goesOn &= same("line " + m + " " + line[0] + " " + line[1] + " " + line[2],
+                    () -> den.line(m, line[0], line[1], line[2]), () -> oracle.line(m, line[0], line[1], line[2]));
+            }
+        }
+        for (int k = 0; k < 2; k++) {
+            int s = k;
+            int strategy = draw.nextInt(3);
+            int most = 1 + draw.nextInt(3);
+            int within = 1 + draw.nextInt(9);
+            goesOn &= same("spec " + strategy + " " + most + " " + within, () -> den.spec(strategy, most, within),
+                () -> oracle.spec(strategy, most, within));
+            int places = 1 + draw.nextInt(3);
+            for (int place = 0; place < places; place++) {
+                int m = draw.nextInt(modules);
+                boolean is = s > 0 && draw.nextInt(3) == 0;
+                int number = is ? 0 : m;
+                int mode = draw.nextInt(3) > 0 ? 0 : draw.nextInt(3);
+                goesOn &= same("place " + s + " " + is + " " + number + " " + mode,
+                    () -> den.place(s, is, number, mode), () -> oracle.place(s, is, number, mode));
+            }
+        }
+        return goesOn;
+    }
+
+    /** At first starting, sending and turns alone, so that there is much that an END can bring about. */
+    private int livelyStep(boolean early) {
+        int d = 35 + draw.nextInt(65);
+        if (!early || d < 40) {
+            return d;
+        }
+        return d < 44 && draw.nextBoolean() ? 40 : d < 70 ? 46 : 66;
+    }
+
+    private boolean one(boolean early, boolean lively) {
+        int d = lively ? livelyStep(early) : draw.nextInt(early ? 60 : 100);
         int n = oracle.ps.size();
         int p = draw.nextInt(30) == 0 ? near(-1, 24) : n == 0 ? 0 : draw.nextInt(n);
         if (d < 4) {
@@ -164,8 +211,8 @@ public final class FuzzTest {
             return same("tick " + ticks, () -> den.tick(ticks), () -> oracle.tick(ticks));
         }
         if (d < 78) {
-            int tag = near(0, 1);
-            int number = draw.nextBoolean() ? to(n) : near(-999, 999);
+            int tag = lively && draw.nextInt(4) > 0 ? 0 : near(0, 1);
+            int number = lively || draw.nextBoolean() ? to(n) : near(-999, 999);
             return same("send " + p + " " + tag + " " + number, () -> den.send(p, tag, number) ? 1 : 0,
                 () -> oracle.send(p, tag, number));
         }

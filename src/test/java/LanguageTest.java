@@ -1,16 +1,56 @@
 import java.io.IOException;
+import java.lang.reflect.Field;
+import java.lang.reflect.Member;
+import java.lang.reflect.Method;
+import java.lang.reflect.Modifier;
 import java.nio.file.Files;
 import java.nio.file.Path;
 import java.util.ArrayList;
 import java.util.List;
+import java.util.Set;
+import java.util.TreeSet;
 import java.util.regex.Matcher;
 import java.util.regex.Pattern;
 
-/** The rules of ../shared/LANGUAGE.md that a look at the text of the program can tell. */
+/** The rules of ../shared/LANGUAGE.md that the program's text, or its classes, can tell. */
 public final class LanguageTest {
-    private static final String[] FORBIDDEN = {"->", "::", "\\bfinally\\b", "\\bcatch\\b", "\\btry\\b", "\\bassert\\b",
-        "\\bsynchronized\\b", "\\binstanceof\\b", "\\bvar\\b", "\\bprotected\\b", "\\bvolatile\\b", "\\bnative\\b",
-        "\"", "Exact\\(", "\\bObject\\b", "\\bClass\\b", "\\bSystem\\.(?!arraycopy)", "\\bMath\\.(?!max\\(|min\\()"};
+    private static final String INDEX = "IndexOutOfBoundsException";
+    private static final String ARGUMENT = "IllegalArgumentException";
+    private static final String STATE = "IllegalStateException";
+
+    private static final String[] FACE = {
+        "int module()" + throwing(STATE),
+        "int line(int,int,int,int)" + throwing(INDEX, ARGUMENT, STATE),
+        "int load(int)" + throwing(INDEX, STATE),
+        "int spec(int,int,int)" + throwing(ARGUMENT, STATE),
+        "int place(int,boolean,int,int)" + throwing(INDEX, ARGUMENT, STATE),
+        "int ofModule(int,int)" + throwing(INDEX, ARGUMENT),
+        "int start(int)" + throwing(INDEX, STATE),
+        "int supervise(int)" + throwing(INDEX, STATE),
+        "int run(int)" + throwing(ARGUMENT),
+        "int tick(int)" + throwing(ARGUMENT),
+        "boolean send(int,int,int)" + throwing(INDEX, ARGUMENT),
+        "int signal(int,int)" + throwing(INDEX, ARGUMENT),
+        "int ofProcess(int,int)" + throwing(INDEX, ARGUMENT),
+        "int local(int,int)" + throwing(INDEX),
+        "int mail(int,int,int)" + throwing(INDEX, ARGUMENT),
+        "int ofSupervisor(int,int)" + throwing(INDEX, ARGUMENT),
+        "int named(int)" + throwing(INDEX),
+        "int many(int)" + throwing(ARGUMENT),
+        "double meanLines()" + throwing(),
+        "int wouldFall(int,int)" + throwing(INDEX, ARGUMENT),
+        "int wouldPurge(int)" + throwing(INDEX),
+        "int overBy(int,int)" + throwing(ARGUMENT),
+        "int passedOver(int,int)" + throwing(INDEX, ARGUMENT),
+        "long digest()" + throwing(),
+    };
+
+    private static final String THROWN = "(IllegalStateException|IllegalArgumentException|IndexOutOfBoundsException"
+        + "|ArithmeticException|UnsupportedOperationException|NoSuchElementException|RuntimeException)";
+
+    private static final String[] FORBIDDEN = {"::", "\\bfinally\\b", "\\bassert\\b", "\\bsynchronized\\b",
+        "\\bprotected\\b", "\\bvolatile\\b", "\\bnative\\b", "Exact\\(", "\\bSystem\\.(?!arraycopy\\()",
+        "\\bMath\\.random", "\\btry\\s*\\(", "\\bpackage\\b", "\\bThread\\b", "\\b(equals|hashCode|toString)\\(.*\\)\\s*\\{"};
 
     private LanguageTest() {
     }
@@ -19,18 +59,95 @@ public final class LanguageTest {
         String text = Files.readString(Path.of("src/main/java/MailDen.java"));
         Due.same("signs are 1 to 127", true, text.chars().allMatch(c -> c > 0 && c < 128));
         String code = text.replaceAll("(?s)/\\*.*?\\*/", "").replaceAll("//[^\n]*", "");
-        for (String word : FORBIDDEN) {
-            Due.same("has " + word, false, Pattern.compile(word).matcher(code).find());
-        }
-        Due.same("imports java.util.Arrays alone", 1, count("\\bimport\\b", code));
-        Due.same("it is that one", 1, count("import java\\.util\\.Arrays;", code));
-        Due.same("classes, twelve at most", true, count("\\bclass\\b", code) <= 12);
-        Due.same("one public class", 1, count("public final class", code));
-        Due.same("the face: a constructor and 24 methods", 25, count("\n    public (?!final class)", code));
-        Due.same("nothing else is public", 26, count("\\bpublic\\b", code));
+        words(code);
         methodsAreShort(text);
-        noNameOfTheFace(code);
+        List<Class<?>> classes = new ArrayList<>();
+        collect(MailDen.class, classes);
+        Due.same("classes, some twelve at most", true, classes.size() <= 12);
+        for (Class<?> one : classes) {
+            fields(one);
+            methods(one);
+        }
+        face();
         Due.end();
+    }
+
+    private static String throwing(String... names) {
+        return " throws " + List.of(names);
+    }
+
+    private static String simpleNames(Class<?>[] types, String between) {
+        List<String> names = new ArrayList<>();
+        for (Class<?> type : types) {
+            names.add(type.getSimpleName());
+        }
+        return String.join(between, names);
+    }
+
+    private static void collect(Class<?> from, List<Class<?>> all) {
+        all.add(from);
+        for (Class<?> inner : from.getDeclaredClasses()) {
+            int is = inner.getModifiers();
+            Due.same(inner + " is not public or protected", false, Modifier.isPublic(is) || Modifier.isProtected(is));
+            collect(inner, all);
+        }
+    }
+
+    private static boolean isHidden(Member member) {
+        return Modifier.isPrivate(member.getModifiers()) || member.isSynthetic();
+    }
+
+    private static void face() {
+        Due.same("the class is public and final", Modifier.PUBLIC | Modifier.FINAL,
+            MailDen.class.getModifiers());
+        Due.same("one constructor", 1, MailDen.class.getDeclaredConstructors().length);
+        Due.same("it is public", 1, MailDen.class.getConstructors().length);
+        Due.same("it takes nothing", 0, MailDen.class.getConstructors()[0].getParameterCount());
+        Set<String> due = new TreeSet<>(List.of(FACE));
+        Set<String> names = new TreeSet<>();
+        for (Method method : MailDen.class.getDeclaredMethods()) {
+            if (!isHidden(method)) {
+                names.add(method.getName());
+                String told = method.getReturnType().getSimpleName() + " " + method.getName() + "("
+                    + simpleNames(method.getParameterTypes(), ",") + ") throws ["
+                    + simpleNames(method.getExceptionTypes(), ", ") + "]";
+                Due.same(told + " is of the face", true, due.remove(told));
+                Due.same(told + " is public", Modifier.PUBLIC, method.getModifiers());
+            }
+        }
+        Due.same("none is missing of " + due, 0, due.size());
+        for (Method method : MailDen.class.getDeclaredMethods()) {
+            if (Modifier.isPrivate(method.getModifiers())) {
+                Due.same(method + " has no name of a public one", false, names.contains(method.getName()));
+            }
+        }
+        for (Field field : MailDen.class.getDeclaredFields()) {
+            Due.same(field + " is private", true, isHidden(field));
+        }
+    }
+
+    private static void fields(Class<?> of) {
+        int own = 0;
+        for (Field field : of.getDeclaredFields()) {
+            if (field.isSynthetic()) {
+                continue;
+            }
+            if (!Modifier.isStatic(field.getModifiers())) {
+                own++;
+                continue;
+            }
+            Class<?> type = field.getType();
+            boolean fits = Set.of(int.class, long.class, boolean.class, char.class, String.class, int[].class,
+                long[].class, char[].class, byte[].class).contains(type) || of.isEnum();
+            Due.same(field + " is a constant", true, fits && Modifier.isFinal(field.getModifiers()));
+        }
+        Due.same(of + " has some twenty fields at most", true, own <= 20);
+    }
+
+    private static void methods(Class<?> of) {
+        for (Method method : of.getDeclaredMethods()) {
+            Due.same(method + " takes seven at most", true, method.getParameterCount() <= 7);
+        }
     }
 
     private static int count(String pattern, String text) {
@@ -40,6 +157,17 @@ public final class LanguageTest {
             found++;
         }
         return found;
+    }
+
+    private static void words(String code) {
+        for (String word : FORBIDDEN) {
+            Due.same("has " + word, 0, count(word, code));
+        }
+        Due.same("no lambda", count("->", code), count("(?m)^\\s*(case\\b.*|default)\\s*->", code));
+        Due.same("imports", count("\\bimport\\b", code),
+            count("import java\\.util\\.(Arrays|ArrayList|List|Iterator|NoSuchElementException|\\*);", code));
+        Due.same("throws", count("\\bthrow\\b", code), count("throw new " + THROWN + "\\((\"[^\"]*\")?\\);", code));
+        Due.same("catches", count("\\bcatch\\b", code), count("catch \\(" + THROWN + "( ?\\| ?" + THROWN + ")* ", code));
     }
 
     private static void methodsAreShort(String text) {
@@ -56,19 +184,6 @@ public final class LanguageTest {
                 Due.same(start + " is short", true, line - since <= 60);
                 since = 0;
             }
-        }
-    }
-
-    private static void noNameOfTheFace(String code) {
-        List<String> face = new ArrayList<>();
-        Matcher open = Pattern.compile("\n    public \\w+ (\\w+)\\(").matcher(code);
-        while (open.find()) {
-            face.add(open.group(1));
-        }
-        Due.same("24 names", 24, face.size());
-        for (String name : face) {
-            String type = "(?:(?:public|private|static|final) )*(?!return|else|new)\\w[\\w\\[\\]]*";
-            Due.same(name + " is declared once", 1, count("\n +" + type + " " + name + "\\(", code));
         }
     }
 }

@@ -261,8 +261,9 @@ public final class WouldTest {
         Due.same("25 of a new den", d, new MailDen().digest());
         MailDen den = busy();
         Due.same("25 of a busy den", byHand(den), den.digest());
-        den.signal(0, 9);
-        Due.same("25 of one that fell", byHand(den), den.digest());
+        MailDen fell = busy();
+        fell.signal(0, 9);
+        Due.same("25 of one that fell", byHand(fell), fell.digest());
     }
 
     private static MailDen busy() {
