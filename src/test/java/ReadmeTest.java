@@ -114,8 +114,8 @@ public final class ReadmeTest {
         try {
             Files.writeString(file, code);
             JavaCompiler compiler = ToolProvider.getSystemJavaCompiler();
-            int wrong = compiler.run(null, null, null, "-cp", System.getProperty("java.class.path"), "-d", at.toString(),
-                file.toString());
+            String own = System.getProperty("java.class.path");
+            int wrong = compiler.run(null, null, null, "-cp", own, "-d", at.toString(), file.toString());
             Due.same("README: its examples compile", 0, wrong);
             if (wrong == 0) {
                 try (URLClassLoader loader = new URLClassLoader(new URL[] {at.toUri().toURL()})) {
